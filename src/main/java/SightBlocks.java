@@ -762,14 +762,11 @@ public final class SightBlocks {
             }
             int target = floor.upgradeFor(begun.first / BLOCK_STEP, begun.many);
             int mover = target == NONE ? NONE : ticket;
-            int movedTickets = 0;
             int moved = 0;
             while (moved < MAX_HOLDS && mover != NONE) {
-                int left = moveTicket(mover, target);
-                movedTickets |= 1 << mover;
+                target = moveTicket(mover, target);
+                mover = nextMover(target);
                 moved++;
-                target = left;
-                mover = nextMover(target, movedTickets);
             }
             return moved;
         }
@@ -920,14 +917,17 @@ public final class SightBlocks {
             return left;
         }
 
-        /** The ticket that follows in a chain to the block that was left, or NONE. */
-        private int nextMover(int target, int movedTickets) {
+        /**
+         * The ticket that follows in a chain to the block that was left, or NONE. It is none that has moved
+         * already, because each of these went to a block of a higher rank than all that were left since.
+         */
+        private int nextMover(int target) {
             int rank = floor.rankOf(target);
             int room = floor.greatestGroup(target);
             for (int i = 0; i < ticketCount; i++) {
                 Ticket ticket = tickets[i];
-                boolean movable = ticket.state == TICKET_VALID && (movedTickets >> i & 1) == 0;
-                if (movable && ticket.many <= room && floor.rankOf(ticket.first / BLOCK_STEP) < rank) {
+                boolean fits = ticket.state == TICKET_VALID && ticket.many <= room;
+                if (fits && floor.rankOf(ticket.first / BLOCK_STEP) < rank) {
                     return i;
                 }
             }
