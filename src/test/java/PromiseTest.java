@@ -1036,10 +1036,10 @@ public final class PromiseTest {
         x.addPiece(0, 8, 8);
         x.putUp(0);
         sold(x, 0, 2);
-        x.hold(0, 2, 5);
+        x.hold(0, 2, 99);
         for (int action = 0; action < 14; action++) {
-            // Another state comes between, so that a state that is not recorded anew shows.
-            x.pass(1);
+            // Each action at a minute of its own, so that a state that is not recorded anew shows.
+            x.pass(1 + action);
             String before = told(x);
             Due.holds("2 to 18: action " + action + " succeeds", act(x, action) >= 0);
             Due.holds("2 to 18: action " + action + " changes something", !told(x).equals(before));
