@@ -21,6 +21,19 @@ final class Edge {
 
     private static final int MOST_STATES = 5;
 
+    /** The promises that the sections of the terms belong to. */
+    private static final Map<String, String> PROMISES = Map.of(
+        "What it is", "Promises 1 to 28, What it is",
+        "Blocks and chairs", "Promises 2, 20 and 21, Blocks and chairs",
+        "Stages", "Promises 3 to 6 and 25, Stages",
+        "Time and holds", "Promises 7, 9, 13, 22 and 28, Time and holds",
+        "Placing", "Promises 7, 12, 20, 24 and 27, Placing",
+        "Tickets", "Promises 8, 10, 11, 14 and 23, Tickets",
+        "Upgrades", "Promises 12 and 26, Upgrades",
+        "Programs", "Promises 16 to 18, Programs",
+        "Undo", "Promise 15 and all actions, Undo",
+        "Errors", "Promises 1 to 28, Errors");
+
     private static String told = "";
 
     private Edge() {
@@ -28,7 +41,7 @@ final class Edge {
 
     /** Begins the test of a sentence, or of a part of one, in the document's own words. */
     static void of(String section, String sentence) {
-        told = section + ", \"" + sentence + "\": ";
+        told = PROMISES.getOrDefault(section, section) + ", \"" + sentence + "\": ";
         Due.holds(told + "stands in the document", SECTIONS.getOrDefault(section, "").contains(sentence));
         TESTED.computeIfAbsent(section, s -> new ArrayList<>()).add(sentence);
     }

@@ -126,8 +126,7 @@ final class ProgramEdges {
         Edge.of("Programs", "orders (possibly none), each of which ends with \";\", a word and then numbers");
         for (String word : new String[] {"upgrade", "pass", "give", "giveback", "comein", "putup", "undo", "run",
             "down", "place", "waits", "wai", "ait", "w", "inn", "i", "u", "ups", "bac", "backs", "buys", "bu",
-            "dro", "drops",
-            "holds", "hol", "old", "hole", "bug", "drip", "bask", "is", "us", "want"}) {
+            "dro", "drops", "holds", "hol", "old", "hole", "bug", "drip", "bask", "is", "us", "want"}) {
             Edge.program(SOLD, " " + word + " 0;", -1001, "");
         }
     }

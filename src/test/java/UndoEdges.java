@@ -104,8 +104,8 @@ final class UndoEdges {
         Edge.action("addBlock 1 6 10, addBlock 1 6 20, hold 0 3 9, buy 0", "upgrade 0", 1);
         Edge.action(few + ", hold 0 3 9", "pass 9", 1);
         Edge.action(few + ", hold 0 3 9, buy 0", "closeDoors", 3);
-        Edge.action("addBlock 1 6 10, addStage, addPiece 0 5 5, " + Edge.write("hold 0 2 9;buy 0;in 0;up 0;wait 9;"), "run",
-            5);
+        String program = Edge.write("hold 0 2 9;buy 0;in 0;up 0;wait 9;");
+        Edge.action("addBlock 1 6 10, addStage, addPiece 0 5 5, " + program, "run", 5);
         // And all that came before is as it was.
         Edge.play(RICH + ", hold 2 1 9 = 7, buy 7 = 4, closeDoors = 4, undo = 4, undo = 3, undo = 2, count 4 = 7");
     }

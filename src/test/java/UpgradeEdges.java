@@ -127,8 +127,7 @@ final class UpgradeEdges {
         Edge.of("Upgrades", "and its group can be placed there");
         // Two chairs get free in the block that was left: a group of three is passed over, one of two follows.
         String floor = "addBlock 1 9 10, addBlock 1 4 20, addBlock 1 2 30, hold 1 2 9, hold 1 2 9, hold 0 3 9, "
-            + "hold 0 2 9, "
-            + Edge.times(4, "buy #");
+            + "hold 0 2 9, " + Edge.times(4, "buy #");
         Edge.play(floor + ", chain 0 = 2, upgrade 0 = 2, ticket 2 4 = 0, ticket 3 1 = 100, chair 100 = 2, "
             + "chair 101 = 2");
         Edge.play(floor + ", giveBack 3, chain 0 = 1, upgrade 0 = 1, block 1 5 = 2");
