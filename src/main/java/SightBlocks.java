@@ -447,8 +447,10 @@ public final class SightBlocks {
 
         int chairsIn() {
             int sum = 0;
-            for (int block = 0; block < blockCount; block++) {
-                sum += chairsThatAre(IN, block);
+            for (int code = 0; code < CHAIR_CODES; code++) {
+                if (taken[code] == IN) {
+                    sum++;
+                }
             }
             return sum;
         }
